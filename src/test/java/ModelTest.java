@@ -85,8 +85,9 @@ public final class ModelTest {
     private void build() {
         posts = random.nextInt(8) == 0 ? 1 + upTo(8) : 2 + upTo(random.nextBoolean() ? 3 : 7);
         call(0, posts);
-        int roads = random.nextInt(4) == 0 ? upTo(21) : posts - 1 + upTo(9);
-        int loads = upTo(6);
+        // Now and then so many that the last are refused, as some are for a wrong number.
+        int roads = random.nextInt(4) == 0 ? upTo(35) : posts - 1 + upTo(9);
+        int loads = upTo(7);
         for (int r = 0; r < roads; r++) {
             newRoad();
         }

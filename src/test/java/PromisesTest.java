@@ -48,6 +48,7 @@ public final class PromisesTest {
         buy();
         keep();
         back();
+        fullYard();
         checks.finish();
     }
 
@@ -1039,5 +1040,47 @@ public final class PromisesTest {
         }
         due("net changes nothing that is kept", x.back(), 1);
         due("roads", x.many(1), 5);
+    }
+
+    /** As many posts, roads and loads as may be, each used to its edge. */
+    private static void fullYard() {
+        promise = "all, at the edge";
+        LoadYard x = row(9, 100);
+        for (int r = 8; r < 20; r++) {
+            x.road(8, 0, 100, 50);
+        }
+        for (int load = 0; load < 5; load++) {
+            x.load(0, 0, 8, 100);
+        }
+        for (int load = 0; load < 5; load++) {
+            due("8 ways", x.told(load, 4), 8);
+            for (int i = 0; i < 8; i++) {
+                due("send", x.send(load, i, 100), 0);
+            }
+        }
+        due("used", x.of(15, 4), 500);
+        due("not used", x.of(16, 4), 0);
+        due("roads over", x.many(3), 8);
+        due("over", x.many(4), 3200);
+        due("cost", x.many(5), 200000);
+        due("sent", x.many(7), 4000);
+        due("sizes", x.many(8), 500);
+        due("buy", x.buy(), LoadYard.STATE);
+        due("share", x.share(4, 0), 20);
+        due("whole", x.whole(), 0);
+        due("most", x.told(4, 6), 1300);
+        due("meets", x.meets(4), 1);
+        due("wall of all but the last", x.wall(255), 1300);
+        due("call of all but the last", x.call(255), 500);
+        due("greatest cut", x.wall(510), 1300);
+        due("no cut", x.wall(511), LoadYard.NUMBER);
+        due("bars", x.bars(), 0);
+        due("barred", x.barred(), 0);
+        due("keep", x.keep(), 1);
+        due("empty", x.empty(-1), 4000);
+        due("ones", x.ones(), 25000);
+        due("the last goes along the fifth", x.sent(4, 4), 100);
+        due("back", x.back(), 1);
+        due("sent again", x.many(7), 4000);
     }
 }
