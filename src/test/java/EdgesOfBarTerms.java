@@ -213,8 +213,8 @@ final class EdgesOfBarTerms extends Edges {
     }
 
     private void sharesRise() {
-        sentence(TERMS, "All SHARES rise together from 0; a SHARE rises no more as soon as it is the SIZE of its LOAD, or"
-            + " a ROAD of its WAY is full: all SHARES of WAYS that have it are its ROOM together.");
+        sentence(TERMS, "All SHARES rise together from 0; a SHARE rises no more as soon as it is the SIZE of its LOAD,"
+            + " or a ROAD of its WAY is full: all SHARES of WAYS that have it are its ROOM together.");
         Yard x = Yards.parallel(1).with("load", 0, 0, 1, 100).with("load", 1, 1, 0, 100);
         shared(5, 1, x, 0);
         shared(5, 1, x, 1);

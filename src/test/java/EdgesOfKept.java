@@ -47,14 +47,17 @@ final class EdgesOfKept extends Edges {
     /** One change of each sort behind keep(): each is undone, whatever the call changes. */
     private void everyChange() {
         sentence(32, KEEP);
-        Supplier<Yard> small = () -> Yards.busy().with("resize", 0, 1).with("resize", 2, 1).with("keep");
+        Supplier<Yard> small = () -> Yards.busy().with("resize", 0, 1).with("resize", 1, 4).with("resize", 2, 5)
+            .with("send", 0, 1, 0).with("keep");
         String[] calls = {"net", "road", "room", "load", "resize", "hold", "send", "fill", "empty", "empty", "measure",
             "ones", "buy", "keep"};
-        int[][] numbers = {{4}, {0, 3, 1, 1}, {0, 99}, {2, 3, 0, 1}, {2, 100}, {2, 0}, {0, 3, 9}, {2}, {0}, {-1}, {0, 0},
-            {}, {}, {}};
+        int[][] numbers = {{4}, {0, 3, 1, 1}, {0, 99}, {2, 3, 0, 1}, {2, 100}, {2, 0}, {0, 3, 9}, {2}, {0}, {-1},
+            {0, 0}, {}, {}, {}};
         for (int at = 0; at < calls.length; at++) {
             String call = calls[at];
             int[] a = numbers[at];
+            boolean seen = !Look.atAll(small.get().with(call, a)).equals(Look.atAll(small.get()));
+            check(Yard.told(call, a) + " changes something", seen ? 1 : 0, call.equals("keep") ? 0 : 1);
             sameKept(Yard.told(call, a) + " leaves", () -> small.get().with(call, a), small);
             sameNow(Yard.told(call, a) + " and back,", () -> small.get().with(call, a).with("back"), small);
         }
@@ -71,7 +74,8 @@ final class EdgesOfKept extends Edges {
         // The latest alone counts, be it less or more than what was kept ahead of it.
         sameNow("nothing is kept latest,", () -> Yards.full().with("net", 1).with("keep").with("net", 5).with("back"),
             Yard::new);
-        sameNow("a busy one is kept latest,", () -> Yards.busy().with("keep").with("empty", -1).with("back"), Yards::busy);
+        sameNow("a busy one is kept latest,", () -> Yards.busy().with("keep").with("empty", -1).with("back"),
+            Yards::busy);
         Yard grown = new Yard().with("keep").with("net", 2).with("road", 0, 1, 1, 1).with("back");
         due(1, grown, "many", 0);
         due(NUMBER, grown, "road", 0, 1, 1, 1);
@@ -100,7 +104,7 @@ final class EdgesOfKept extends Edges {
         refuses(STATE, Yard::new, "back");
         refuses(STATE, () -> Yards.bare(9), "back");
         refuses(STATE, Yards::diamond, "back");
-        refuses(STATE, () -> Yards.longWays(3).with("load", 2, 0, 8, 5).with("hold", 0, 7).with("send", 0, 6, 9), "back");
+        refuses(STATE, () -> Yards.longWays(3).with("load", 2, 0, 8, 5).with("hold", 0, 7), "back");
         Yard late = Yards.diamond();
         due(STATE, late, "back");
         due(1, late, "keep");

@@ -78,6 +78,10 @@ final class EdgesOfNet extends Edges {
         return x.with("road", 1, 0, 7, 3).with("road", 0, 1, 8, 4).with("load", 2, 0, 1, 5).with("load", 0, 1, 0, 6);
     }
 
+    private static Yard twoLoads(Yard x) {
+        return x.with("load", 2, 0, 1, 5).with("load", 0, 1, 0, 6);
+    }
+
     private void net() {
         sentence(2, "A new NET of n POSTS, without ROADS, LOADS: n.");
         for (int n = 1; n <= 9; n++) {
@@ -89,6 +93,8 @@ final class EdgesOfNet extends Edges {
             if (n > 1) {
                 sameNow("a net behind a busy one", () -> twoRoads(Yards.busy().with("net", posts)),
                     () -> twoRoads(Yards.bare(posts)));
+                sameNow("loads alone behind a full one", () -> twoLoads(Yards.full().with("net", posts)),
+                    () -> twoLoads(Yards.bare(posts)));
             }
         }
         Yard again = Yards.full().with("net", 9);

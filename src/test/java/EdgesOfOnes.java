@@ -13,13 +13,14 @@ final class EdgesOfOnes extends Edges {
         leastCost();
         firstOfSeveral();
         becomesTheSending();
+        behindAnotherChoice();
         noneSuch();
         noneWithRoom();
     }
 
-    private static final String ONES = "Of all choices of one of THE WAYS for each LOAD (of a HELD one its own) by which"
-        + " no ROAD is OVER, each LOAD being sent whole along it, that of the least COST, of several that with the lesser"
-        + " WAY of the first LOAD by which they are unlike, becomes THE SENDING: its COST.";
+    private static final String ONES = "Of all choices of one of THE WAYS for each LOAD (of a HELD one its own) by"
+        + " which no ROAD is OVER, each LOAD being sent whole along it, that of the least COST, of several that with"
+        + " the lesser WAY of the first LOAD by which they are unlike, becomes THE SENDING: its COST.";
 
     private static final String NONE_SUCH = "NONE: there is none such, or no LOADS (THE SENDING stays).";
 
@@ -79,6 +80,10 @@ final class EdgesOfOnes extends Edges {
         Yard free = priced(10, 0).with("load", 0, 0, 1, 10);
         due(0, free, "ones");
         chosen(free, 0);
+        // Less by one than the way ahead of it.
+        Yard byOne = priced(1, 2, 1).with("load", 0, 0, 1, 1);
+        due(1, byOne, "ones");
+        chosen(byOne, 1);
         Yard last = priced(10, 9, 8, 7, 6, 5, 4, 3, 2, 0).with("load", 0, 0, 1, 10);
         due(20, last, "ones");
         chosen(last, 7);
@@ -132,6 +137,35 @@ final class EdgesOfOnes extends Edges {
         due(7, x, "told", 2, 8);
         Supplier<Yard> made = () -> Yards.busy().with("resize", 0, 1).with("resize", 2, 1);
         sameKept("a choice leaves", () -> made.get().with("ones"), made);
+    }
+
+    /** A dear choice for five loads ahead of it leaves nothing behind. */
+    private void behindAnotherChoice() {
+        sentence(21, ONES);
+        Supplier<Yard> five = () -> {
+            Yard x = priced(100, 50, 50, 50, 50, 50, 50, 50, 50);
+            for (int load = 0; load < 5; load++) {
+                x.with("load", load % 3, 0, 1, 100);
+            }
+            return x.with("hold", 2, 7);
+        };
+        Yard x = five.get();
+        due(25000, x, "ones");
+        chosen(x, 0, 1, 7, 2, 3);
+        x.with("net", 2).with("road", 0, 1, 10, 5).with("road", 0, 1, 10, 4).with("load", 0, 0, 1, 10);
+        due(40, x, "ones");
+        chosen(x, 1);
+        x.with("load", 1, 1, 0, 9);
+        due(4 * 10 + 5 * 9, x, "ones");
+        chosen(x, 1, 0);
+        Yard kept = Yards.parallel(8).with("load", 1, 0, 1, 7).with("keep");
+        for (int load = 1; load < 5; load++) {
+            kept.with("load", 1, 0, 1, 10);
+        }
+        due(3 * 47, kept, "ones");
+        kept.with("back");
+        due(21, kept, "ones");
+        chosen(kept, 0);
     }
 
     private void noneSuch() {

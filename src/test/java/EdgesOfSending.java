@@ -302,7 +302,7 @@ final class EdgesOfSending extends Edges {
     }
 
     /** Three loads with a road for each way: 8, 8 and 4 of them; each road is USED so much. */
-    private static Yard twentyRoads(int room, int amount) {
+    static Yard twentyRoads(int room, int amount) {
         Yard x = Yards.bare(9);
         for (int r = 0; r < 20; r++) {
             x.with("road", r / 8 * 2, r / 8 * 2 + 1, room, 50);

@@ -53,6 +53,7 @@ final class EdgesOfShares extends Edges {
         // Its size ahead of that: the others have what it leaves.
         shared(1, 1, () -> onOneRoad(5, 100).with("resize", 4, 1), 4);
         shared(99, 4, () -> onOneRoad(5, 100).with("resize", 4, 1), 0);
+        shared(97, 1, () -> onOneRoad(3, 100).with("resize", 0, 1).with("resize", 1, 2), 2);
     }
 
     private void shareOfNothing() {
@@ -64,6 +65,18 @@ final class EdgesOfShares extends Edges {
             int l = load;
             shared(0, 1, Yards::apart, l);
         }
+        // What was shared ahead of a new net, or of what is brought back, leaves nothing.
+        Yard before = onOneRoad(5, 100);
+        due(20, before, "share", 0, 0);
+        before.with("net", 2).with("load", 0, 0, 1, 20);
+        due(0, before, "whole");
+        due(0, before, "share", 0, 0);
+        due(1, before, "share", 0, 1);
+        Yard brought = Yards.bare(2).with("load", 1, 0, 1, 10).with("keep").with("road", 0, 1, 10, 1);
+        due(1, brought, "whole");
+        brought.with("back");
+        due(0, brought, "whole");
+        due(0, brought, "share", 0, 0);
         // A load on a road without room takes nothing from one beside it.
         Supplier<Yard> beside = () -> Yards.row(3, 10, 1).with("room", 0, 0).with("load", 0, 0, 2, 100)
             .with("load", 0, 1, 2, 100);
@@ -136,6 +149,12 @@ final class EdgesOfShares extends Edges {
         for (int r = 0; r < 8; r++) {
             due(rooms[r], some, "of", r, 2);
         }
+        Yard all = EdgesOfSending.twentyRoads(0, 100);
+        due(2000, all, "buy");
+        for (int r = 0; r < 20; r++) {
+            due(100, all, "of", r, 2);
+        }
+        due(20, EdgesOfSending.twentyRoads(99, 100), "buy");
         sameKept("what is bought leaves", () -> Yards.busy().with("buy"), Yards::busy);
     }
 

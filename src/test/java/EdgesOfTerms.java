@@ -158,9 +158,11 @@ final class EdgesOfTerms extends Edges {
             nine.with("road", r / 3, r / 3 + 1, 1, 1);
         }
         nine.with("load", 0, 0, 2, 1);
-        ways(nine, 0, along(0, 3), along(0, 4), along(0, 5), along(1, 3), along(1, 4), along(1, 5), along(2, 3), along(2, 4));
+        ways(nine, 0, along(0, 3), along(0, 4), along(0, 5), along(1, 3), along(1, 4), along(1, 5), along(2, 3),
+            along(2, 4));
         nine.with("road", 2, 0, 1, 1);
-        ways(nine, 0, along(6), along(0, 3), along(0, 4), along(0, 5), along(1, 3), along(1, 4), along(1, 5), along(2, 3));
+        ways(nine, 0, along(6), along(0, 3), along(0, 4), along(0, 5), along(1, 3), along(1, 4), along(1, 5),
+            along(2, 3));
     }
 
     private void wayTold() {
