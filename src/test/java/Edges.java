@@ -87,15 +87,17 @@ abstract class Edges {
     }
 
     private void same(String what, List<String> got, List<String> want) {
-        String unlike = "";
-        for (int at = 0; at < Math.max(got.size(), want.size()) && unlike.isEmpty(); at++) {
+        String first = "";
+        int unlike = 0;
+        for (int at = 0; at < Math.max(got.size(), want.size()); at++) {
             String one = at < got.size() ? got.get(at) : "nothing";
             String other = at < want.size() ? want.get(at) : "nothing";
             if (!one.equals(other)) {
-                unlike = one + ", where " + other + " is due";
+                unlike++;
+                first = first.isEmpty() ? " " + one + ", where " + other + " is due;" : first;
             }
         }
-        check(what + " nothing else is seen " + unlike, unlike.isEmpty() ? 0 : 1, 0);
+        check(what + first + " how many answers are unlike", unlike, 0);
     }
 
     /** Argument 'at' may be least to most: these are taken, and what is beyond them is refused. */
