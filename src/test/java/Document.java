@@ -13,15 +13,17 @@ final class Document {
 
     private static final Path PLACE = Path.of("../shared/DOC.md");
 
+    private final String whole = Files.readString(PLACE);
     private final String[] text = new String[PROMISES + 1];
+    private final String[] heading = new String[PROMISES + 1];
     private final BitSet[] named = new BitSet[PROMISES + 1];
 
     Document() throws IOException {
-        String whole = Files.readString(PLACE);
         text[TERMS] = plain(between(whole, "An object is used", "## The public face"))
             + " " + plain(between(whole, "## Terms", "Ahead of the calls"));
         for (int promise = 1; promise <= PROMISES; promise++) {
             String part = between(whole, "## Promise " + promise + ":", "\n## ");
+            heading[promise] = part.substring(part.indexOf(": ") + 2, part.indexOf('\n'));
             text[promise] = plain(part.substring(part.indexOf('\n'))).replaceFirst("^`[^`]*`: ", "");
         }
         for (int section = 0; section <= PROMISES; section++) {
@@ -41,6 +43,31 @@ final class Document {
     /** Without the marks of headings, lists and boxes, and with one space between words. */
     private static String plain(String part) {
         return part.replaceAll("(?m)^(## Terms|```(text)?|\\d\\. )", " ").replaceAll("\\s+", " ").trim();
+    }
+
+    String text(int section) {
+        return text[section];
+    }
+
+    /** What stands behind the number of a promise: the name of its call, but for the first. */
+    String heading(int promise) {
+        return heading[promise];
+    }
+
+    /** The document's words for one of the constants. */
+    String meaning(String constant) {
+        String row = between(whole, "`" + constant + " = ", "\n");
+        return row.substring(row.indexOf("`: ") + 3);
+    }
+
+    /** The lines of the public face, without those of the class itself. */
+    List<String> face() {
+        String block = between(whole, "public final class LoadYard {\n", "\n}");
+        List<String> rows = new ArrayList<>();
+        for (String line : block.substring(block.indexOf('\n') + 1).split("\n")) {
+            rows.add(line.trim());
+        }
+        return rows;
     }
 
     /** Whether the section has these words; they count as named then. */

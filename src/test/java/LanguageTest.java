@@ -1,24 +1,20 @@
 import java.io.IOException;
 import java.lang.reflect.Constructor;
+import java.lang.reflect.Executable;
 import java.lang.reflect.Field;
+import java.lang.reflect.Member;
 import java.lang.reflect.Method;
 import java.lang.reflect.Modifier;
 import java.nio.file.Files;
 import java.nio.file.Path;
-import java.util.Arrays;
 import java.util.Set;
+import java.util.StringJoiner;
 import java.util.TreeSet;
 import java.util.regex.Matcher;
 import java.util.regex.Pattern;
 
 /** The face of the class, and those rules of LANGUAGE.md that can be seen without reading like a person. */
 public final class LanguageTest {
-    private static final String[] FACE = {
-        "net/1", "road/4", "room/2", "of/2", "load/4", "resize/2", "hold/2", "told/2", "is/2", "roads/2", "way/3",
-        "price/2", "cheap/1", "send/3", "sent/2", "fill/1", "empty/1", "many/1", "over/0", "ones/0", "wall/1",
-        "call/1", "bars/0", "barring/0", "meets/1", "measure/2", "barred/0", "share/2", "whole/0", "buy/0",
-        "keep/0", "back/0",
-    };
     private static final String[] WORDS_RULED_OUT = {
         "throw", "throws", "try", "catch", "synchronized", "assert", "volatile", "native", "System.out",
         "System.nanoTime", "Random", "Thread", "Exception", "Exact", "hashCode", "toString", "protected",
@@ -27,60 +23,75 @@ public final class LanguageTest {
 
     private static final Checks checks = new Checks();
 
-    public static void main(String[] args) throws IOException {
-        face();
-        constants();
+    public static void main(String[] args) throws IOException, IllegalAccessException {
+        face(new Document());
         insides();
         source(Files.readString(Path.of("src/main/java/LoadYard.java")));
         checks.finish();
     }
 
-    private static void face() {
+    /** What is public of the class, a line each, has to be the document's face, without the names of arguments. */
+    private static void face(Document document) throws IllegalAccessException {
         int mods = LoadYard.class.getModifiers();
         checks.due("public and final", Modifier.isPublic(mods) && Modifier.isFinal(mods) ? 1 : 0, 1);
+        Set<String> want = new TreeSet<>();
+        for (String line : document.face()) {
+            want.add(line.replaceAll("(int) \\w+(?=[,)])", "$1"));
+        }
         Set<String> found = new TreeSet<>();
         for (Method m : LoadYard.class.getDeclaredMethods()) {
-            if (Modifier.isPublic(m.getModifiers())) {
-                found.add(m.getName() + "/" + m.getParameterCount());
-                checks.due(m + " answers an int", m.getReturnType() == int.class ? 1 : 0, 1);
-                for (Class<?> type : m.getParameterTypes()) {
-                    checks.due(m + " takes ints", type == int.class ? 1 : 0, 1);
-                }
-            } else if (!m.isSynthetic()) {
-                checks.due(m + " is private", Modifier.isPrivate(m.getModifiers()) ? 1 : 0, 1);
+            if (isSeen(m)) {
+                found.add(Modifier.toString(m.getModifiers()) + " " + m.getReturnType() + " " + m.getName()
+                    + arguments(m));
             }
         }
-        Set<String> want = new TreeSet<>(Arrays.asList(FACE));
-        checks.due("the face " + found, found.equals(want) ? 1 : 0, 1);
-        Constructor<?>[] made = LoadYard.class.getDeclaredConstructors();
-        checks.due("one constructor", made.length, 1);
-        checks.due("without arguments", made[0].getParameterCount(), 0);
+        for (Constructor<?> c : LoadYard.class.getDeclaredConstructors()) {
+            found.add(Modifier.toString(c.getModifiers()) + " " + c.getName() + arguments(c));
+        }
+        for (Field f : LoadYard.class.getDeclaredFields()) {
+            if (isSeen(f)) {
+                found.add(Modifier.toString(f.getModifiers()) + " " + f.getType() + " " + f.getName() + value(f) + ";");
+            }
+        }
+        checks.due("the face " + found + " is the document's " + want, found.equals(want) ? 1 : 0, 1);
+        checks.due("what it is made of", LoadYard.class.getSuperclass() == Object.class ? 1 : 0, 1);
+        checks.due("interfaces, which would add to the face", LoadYard.class.getInterfaces().length, 0);
     }
 
-    private static void constants() {
-        checks.due("NUMBER", LoadYard.NUMBER, -1);
-        checks.due("FULL", LoadYard.FULL, -2);
-        checks.due("KIND", LoadYard.KIND, -3);
-        checks.due("NONE", LoadYard.NONE, -4);
-        checks.due("STATE", LoadYard.STATE, -5);
-        int open = 0;
-        for (Field f : LoadYard.class.getDeclaredFields()) {
-            if (!Modifier.isPrivate(f.getModifiers())) {
-                open++;
+    private static boolean isSeen(Member member) {
+        return !Modifier.isPrivate(member.getModifiers()) && !member.isSynthetic();
+    }
+
+    private static String value(Field f) throws IllegalAccessException {
+        return Modifier.isStatic(f.getModifiers()) && f.getType() == int.class ? " = " + f.getInt(null) : "";
+    }
+
+    private static String arguments(Executable call) {
+        StringJoiner types = new StringJoiner(", ", "(", ");");
+        for (Class<?> type : call.getParameterTypes()) {
+            types.add(type.getName());
+        }
+        return types.toString();
+    }
+
+    private static Set<String> faceNames() {
+        Set<String> names = new TreeSet<>();
+        for (Method m : LoadYard.class.getDeclaredMethods()) {
+            if (isSeen(m)) {
+                names.add(m.getName());
             }
         }
-        checks.due("fields that aren't private", open, 5);
+        return names;
     }
 
     private static void insides() {
-        Set<String> names = new TreeSet<>();
-        for (String row : FACE) {
-            names.add(row.substring(0, row.indexOf('/')));
-        }
+        Set<String> names = faceNames();
         Class<?>[] inside = LoadYard.class.getDeclaredClasses();
         checks.due("twelve classes at most", inside.length < 12 ? 1 : 0, 1);
         for (Class<?> c : inside) {
             checks.due(c + " is static", Modifier.isStatic(c.getModifiers()) ? 1 : 0, 1);
+            int open = c.getModifiers() & (Modifier.PUBLIC | Modifier.PROTECTED);
+            checks.due(c + " is private or package-visible", open, 0);
             checks.due(c + " has twenty fields at most", c.getDeclaredFields().length <= 20 ? 1 : 0, 1);
             for (Method m : c.getDeclaredMethods()) {
                 checks.due(m + " has a name of its own", names.contains(m.getName()) ? 1 : 0, 0);
@@ -136,6 +147,6 @@ public final class LanguageTest {
             }
             checks.due(lines[at].trim() + " is short", end - at + 1 <= MOST_LINES ? 1 : 0, 1);
         }
-        checks.due("methods were looked at", methods > FACE.length ? 1 : 0, 1);
+        checks.due("methods were looked at", methods > faceNames().size() ? 1 : 0, 1);
     }
 }
